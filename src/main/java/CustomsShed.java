@@ -805,15 +805,15 @@ public final class CustomsShed {
             return length;
         }
 
-        void removeIfThere(int id) {
-            int place = placeOf(id);
-            if (place < 0) {
-                return;
+        void remove(int id) {
+            int kept = 0;
+            for (int place = 0; place < length; place++) {
+                if (ids[place] != id) {
+                    ids[kept] = ids[place];
+                    kept++;
+                }
             }
-            for (int to = place; to + 1 < length; to++) {
-                ids[to] = ids[to + 1];
-            }
-            length--;
+            length = kept;
         }
 
         void copyFrom(AuditQueue source) {
@@ -933,7 +933,7 @@ public final class CustomsShed {
                 return NO_SUCH_ELEMENT;
             }
             int id = queue.ids[0];
-            queue.removeIfThere(id);
+            queue.remove(id);
             int slot = lots.slotWith(id);
             if (slot >= 0) {
                 lots.underSeal[slot] = false;
@@ -968,7 +968,7 @@ public final class CustomsShed {
         }
 
         private void letLeave(int slot) {
-            queue.removeIfThere(lots.ids[slot]);
+            queue.remove(lots.ids[slot]);
             lots.remove(slot);
         }
 
@@ -989,18 +989,14 @@ public final class CustomsShed {
             // From the last slot on, since a lot that leaves moves those behind it.
             for (int slot = lots.count - 1; slot >= 0; slot--) {
                 if (hasBay(dampAtDawn, lots.bays[slot])) {
-                    letRot(slot);
+                    lots.quantities[slot]--;
+                    if (lots.quantities[slot] <= 0) {
+                        letLeave(slot);
+                        destroyed++;
+                    }
                 }
             }
             daysPassed++;
-        }
-
-        private void letRot(int slot) {
-            lots.quantities[slot]--;
-            if (lots.quantities[slot] <= 0) {
-                letLeave(slot);
-                destroyed++;
-            }
         }
 
         int dutyOf(int slot) {
@@ -1088,7 +1084,8 @@ public final class CustomsShed {
                 case CommandText.BOND:
                     return takeCoins(first);
                 default:
-                    return letPass(1);
+                    letOneDayPass();
+                    return 0;
             }
         }
     }

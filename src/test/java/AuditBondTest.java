@@ -33,6 +33,14 @@ public final class AuditBondTest {
             }
         }
         check.same("all lots wait", shed.queueLength(), 16);
+        check.same("first of a full queue", shed.audit(), 4);
+        check.same("second of a full queue", shed.audit(), 9);
+        for (int lot = 0; lot < 16; lot++) {
+            if (lot != 9 && lot != 4) {
+                check.same("next in the queue", shed.audit(), lot);
+            }
+        }
+        check.same("none waits", shed.queueLength(), 0);
     }
 
     private static void promise38Audit() {

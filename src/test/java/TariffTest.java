@@ -147,18 +147,18 @@ public final class TariffTest {
         CustomsShed shed = new CustomsShed();
         shed.addStep(0, 50);
         total(shed, 0);
-        shed.addLot('a', 1, 1, 23);
+        shed.addLot('a', 11, 1, 23);
         shed.addLot('a', 3, 1, 0);
         shed.addLot('a', 99, 99, 12);
         total(shed, 0);
         shed.open(0);
-        total(shed, 0);
+        total(shed, 5);
         shed.open(1);
-        total(shed, 1);
+        total(shed, 6);
         shed.open(2);
-        total(shed, 4901);
+        total(shed, 4906);
         shed.seal(1);
-        total(shed, 4900);
+        total(shed, 4905);
     }
 
     private static void total(CustomsShed shed, int due) {

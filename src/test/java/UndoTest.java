@@ -43,6 +43,8 @@ public final class UndoTest {
     }
 
     private static void undone(CustomsShed shed, String what, Runnable change) {
+        // Another change ahead, so that no state from an earlier undo is at hand.
+        shed.deposit(1);
         String before = state(shed);
         change.run();
         check.holds(what + " changes something", !state(shed).equals(before));
