@@ -349,7 +349,7 @@ public final class CustomsShed {
             history.takeBack(shed);
             throw new UnsupportedOperationException("a command failed");
         }
-        history.record();
+        history.keepPrepared();
         return commands;
     }
 
@@ -408,7 +408,7 @@ public final class CustomsShed {
         if (answer < 0) {
             throwFor(answer);
         }
-        history.record();
+        history.keepPrepared();
         return answer;
     }
 
@@ -1111,8 +1111,8 @@ public final class CustomsShed {
             state.copyFrom(shed);
         }
 
-        /** Counts the prepared change as done. */
-        void record() {
+        /** The prepared change is done: it can be undone from now on. */
+        void keepPrepared() {
             cursor = cursor >= LAST ? 0 : cursor + 1;
             if (count < MOST_UNDONE) {
                 count++;

@@ -22,6 +22,7 @@ public final class AuditBondEdgesTest {
         promise45MostReleases();
         promise45AtEachBond();
         promise45SealedLots();
+        promise45AfterLotsLeft();
         check.finish();
     }
 
@@ -203,6 +204,11 @@ public final class AuditBondEdgesTest {
         return shed;
     }
 
+    private static CustomsShed damp(CustomsShed shed) {
+        shed.wet(0);
+        return shed;
+    }
+
     private static void promise42TooSmallABond() {
         busy.refuses("release with a bond of 35 at a duty of 65", Edges.UNSUPPORTED, shed -> shed.release(1));
         for (int duty : new int[] {1, 2, 50, 99}) {
@@ -212,6 +218,10 @@ public final class AuditBondEdgesTest {
             just.answers("release at just the bond", duty, shed -> shed.release(0));
             just.answers("the bond after it", 0, shed -> shed.release(0) - duty + shed.bond());
             just.answers("collected after it", duty, shed -> shed.release(0) - duty + shed.collected());
+            new Edges(check, () -> damp(withDutyAndBond(duty, duty - 1))).refuses("release of a damp lot at one too few",
+                    Edges.UNSUPPORTED, shed -> shed.release(0));
+            new Edges(check, () -> damp(withDutyAndBond(duty, duty))).answers("release of a damp lot", duty,
+                    shed -> shed.release(0));
             Edges more = new Edges(check, () -> withDutyAndBond(duty, duty + 1));
             more.answers("release at one coin more", duty, shed -> shed.release(0));
             more.answers("the coin that stays", 1, shed -> shed.release(0) - duty + shed.bond());
@@ -304,5 +314,27 @@ public final class AuditBondEdgesTest {
             shed.deposit(1);
             check.same("most releases with " + coins, shed.mostReleases(), Math.min(coins, 16));
         }
+    }
+
+    /** Lots that were counted before and have left count no more. */
+    private static void promise45AfterLotsLeft() {
+        CustomsShed shed = Recipes.full(0);
+        shed.addStep(0, 100);
+        shed.open(0);
+        check.same("most releases with one open lot", shed.mostReleases(), 15);
+        for (int lot = 1; lot <= 12; lot++) {
+            shed.release(lot);
+        }
+        shed.seal(0);
+        check.same("most releases of the four that stay", shed.mostReleases(), 4);
+        shed.deposit(999);
+        for (int lot = 13; lot <= 15; lot++) {
+            shed.release(lot);
+        }
+        check.same("most releases of the last", shed.mostReleases(), 1);
+        shed.release(0);
+        check.same("most releases of none left", shed.mostReleases(), 0);
+        shed.undo();
+        check.same("most releases after undo", shed.mostReleases(), 1);
     }
 }

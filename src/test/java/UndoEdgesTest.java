@@ -85,18 +85,18 @@ public final class UndoEdgesTest {
 
     /** The change is the ninth: the first of the eight before can be undone no more. */
     private static void fromEight(Consumer<CustomsShed> change) {
-        String before = Trace.look(Recipes.idle()).split("changes")[0];
-        CustomsShed shed = after(Recipes.idle(), change);
-        check.same("changes after the ninth", shed.undoCount(), 8);
-        check.same("undo of the ninth", shed.undo(), 7);
-        check.same("look after it", Trace.look(shed).split("changes")[0], before);
-        CustomsShed twin = Recipes.idle();
-        for (int left = 6; left >= 0; left--) {
-            twin.undo();
-            check.same("undo", shed.undo(), left);
+        check.same("changes after the ninth", after(Recipes.idle(), change).undoCount(), 8);
+        for (int undos = 1; undos <= 8; undos++) {
+            CustomsShed shed = after(Recipes.idle(), change);
+            for (int undone = 1; undone <= undos; undone++) {
+                check.same("undo", shed.undo(), 8 - undone);
+            }
+            CustomsShed twin = undoneTimes(Recipes::idle, undos - 1);
             check.same("look after undo", Trace.look(shed).split("changes")[0], Trace.look(twin).split("changes")[0]);
+            if (undos == 8) {
+                check.refused("a ninth undo", Edges.STATE, () -> shed.undo());
+            }
         }
-        check.refused("a ninth undo", Edges.STATE, () -> shed.undo());
     }
 
     private static void promise56OnlyChanges() {

@@ -1,3 +1,5 @@
+import java.util.function.Consumer;
+
 /** Promises 56 to 59: undo and saved state. */
 public final class UndoTest {
     private static final Check check = new Check("UndoTest");
@@ -15,38 +17,41 @@ public final class UndoTest {
     }
 
     private static void promise56EveryChange() {
-        CustomsShed shed = new CustomsShed();
-        check.refused("undo of nothing", IllegalStateException.class, () -> shed.undo());
-        shed.addStep(7, 70);
-        shed.addLot('a', 1, 10, 0);
-        shed.deposit(100);
-        Runnable[] changes = {
-            () -> shed.addLot('b', 2, 2, 5), () -> shed.open(0), () -> shed.move(0, 9),
-            () -> shed.enqueue(0), () -> shed.release(0), () -> shed.addStep(5, 5),
-            () -> shed.removeStep(7), () -> shed.deposit(5), () -> shed.passDays(3),
-            () -> Sheds.execute(shed, "open 0;wet 0;day;bond 5;step 1=1"),
-        };
-        for (int change = 0; change < changes.length; change++) {
-            undone(shed, "change " + change, changes[change]);
-        }
-        shed.open(0);
-        undone(shed, "wet", () -> shed.wet(0));
-        undone(shed, "seal", () -> shed.seal(0));
-        undone(shed, "release of an open lot", () -> shed.release(0));
-        shed.seal(0);
-        shed.enqueue(0);
-        undone(shed, "audit", () -> shed.audit());
-        shed.audit();
-        shed.wet(0);
-        shed.enqueue(0);
-        undone(shed, "passDays that destroys a lot", () -> shed.passDays(1));
+        CustomsShed nothing = new CustomsShed();
+        check.refused("undo of nothing", IllegalStateException.class, () -> nothing.undo());
+        undone("addLot", shed -> shed.addLot('b', 2, 2, 5));
+        undone("seal", shed -> shed.seal(1));
+        undone("open", shed -> shed.open(0));
+        undone("wet", shed -> shed.wet(1));
+        undone("move", shed -> shed.move(0, 9));
+        undone("enqueue", shed -> shed.enqueue(1));
+        undone("audit", shed -> shed.audit());
+        undone("release of a sealed lot", shed -> shed.release(0));
+        undone("release of an open lot", shed -> shed.release(1));
+        undone("addStep", shed -> shed.addStep(5, 5));
+        undone("removeStep", shed -> shed.removeStep(7));
+        undone("deposit", shed -> shed.deposit(5));
+        undone("passDays that destroys a lot", shed -> shed.passDays(3));
+        undone("execute", shed -> Sheds.execute(shed, "open 0;wet 0;day;bond 5;step 1=1"));
     }
 
-    private static void undone(CustomsShed shed, String what, Runnable change) {
-        // Another change ahead, so that no state from an earlier undo is at hand.
-        shed.deposit(1);
+    /** Lot 0 is sealed and waits, lot 1 is open and dry, lot 2 is damp. */
+    private static CustomsShed prepared() {
+        CustomsShed shed = new CustomsShed();
+        shed.addStep(7, 70);
+        shed.addLot('a', 1, 10, 0);
+        shed.addLot('c', 5, 5, 12);
+        shed.open(1);
+        Sheds.addOpen(shed, 3, 20, true);
+        shed.enqueue(0);
+        shed.deposit(100);
+        return shed;
+    }
+
+    private static void undone(String what, Consumer<CustomsShed> change) {
+        CustomsShed shed = prepared();
         String before = state(shed);
-        change.run();
+        change.accept(shed);
         check.holds(what + " changes something", !state(shed).equals(before));
         shed.undo();
         check.same("undo of " + what, state(shed), before);
